@@ -294,7 +294,7 @@ public final class WidowDeeds {
             return NONE;
         }
         int size = doubts.fewestForgeries(s, p, day);
-        if (what == NONE || size == ABSENT) {
+        if (what == NONE) {
             return size;
         }
         return within(what, size) ? doubts.row[what] : ABSENT;
@@ -1165,6 +1165,8 @@ public final class WidowDeeds {
         private int day;
         private int owner;
         private Law law;
+        /** The deeds of which the chain can be made. */
+        long standing = 0;
         /** From which day on a deed of all of the strip to each person is entered. */
         private final int[] titledSince = new int[PEOPLE];
         private final int[] facts = new int[Law.LETTERS];
@@ -1191,38 +1193,35 @@ public final class WidowDeeds {
             day = newDay;
             owner = town.firstOwner[strip];
             law = laws[town.lawOf[strip]];
-            Arrays.fill(asked, 0L);
-            Arrays.fill(answered, 0L);
+            standing = 0;
             Arrays.fill(titledSince, NEVER);
             for (int d = 0; d < ledger.count; d++) {
+                asked[d] = 0;
+                answered[d] = 0;
                 Deed deed = ledger.deeds[d];
                 if (deed.kind == WHOLE && deed.isOf(strip)) {
                     titledSince[deed.taker] = Math.min(titledSince[deed.taker], deed.entry);
+                    standing = standingWith(d);
                 }
             }
         }
 
         int holderBy(int newStrip, int newDay) {
             face(newStrip, newDay);
-            return follow(standing());
+            return follow(standing);
         }
 
-        /** The deeds of which the chain can be made. */
-        long standing() {
-            long set = 0;
-            for (int d = 0; d < ledger.count; d++) {
-                if (ledger.deeds[d].kind == WHOLE && isGood(ledger.deeds[d])) {
-                    set |= 1L << d;
-                }
-            }
-            return set;
+        /** With a deed of all of the strip among those that stand, or without it, as it is now. */
+        long standingWith(int d) {
+            long bit = 1L << d;
+            return isGood(ledger.deeds[d]) ? standing | bit : standing & ~bit;
         }
 
         private boolean isGood(Deed deed) {
             return deed.isOf(strip) && deed.day <= day && !town.isVoid(deed);
         }
 
-        int follow(long standing) {
+        int follow(long set) {
             length = 0;
             lookedAt = 0;
             int now = owner;
@@ -1231,7 +1230,7 @@ public final class WidowDeeds {
                 int best = NONE;
                 for (int i = from; i < ledger.count; i++) {
                     int e = ledger.order[i];
-                    if ((standing >>> e & 1) != 0 && ledger.deeds[e].giver == now) {
+                    if ((set >>> e & 1) != 0 && ledger.deeds[e].giver == now) {
                         lookedAt |= 1L << e;
                         best = best == NONE || overcomes(ledger.order[best], e) ? i : best;
                     }
@@ -1450,9 +1449,9 @@ public final class WidowDeeds {
             int before = chain.holderBy(s, day);
             for (int d = 0; d < ledger.count; d++) {
                 Deed deed = ledger.deeds[d];
-                if (deed.isOf(s)) {
+                if (deed.kind == WHOLE && deed.isOf(s)) {
                     deed.isForged = !deed.isForged;
-                    if (chain.follow(chain.standing()) != before) {
+                    if (chain.follow(chain.standingWith(d)) != before) {
                         changes[d]++;
                     }
                     deed.isForged = !deed.isForged;
@@ -1524,9 +1523,8 @@ public final class WidowDeeds {
         /** How many, with the deeds in row; ABSENT if three are too few. */
         int fewestForgeries(int s, int p, int day) {
             chain.face(s, day);
-            long standing = chain.standing();
             for (int size = 0; size <= ROW_MOST; size++) {
-                if (strike(standing, 0, size, p)) {
+                if (strike(chain.standing, 0, size, p)) {
                     return size;
                 }
             }

@@ -201,16 +201,19 @@ public final class DeedsTest {
         R.due("10: later", x.heard(3, 0, 70), 3);
         R.due("10: then ahead", x.heard(3, 0, 60), 4);
         R.due("10: the first counts", x.known(3, 0), 60);
+        x.deed(0, 1, 1, 50, 0, 0);
+        R.due("10: of the other deed nothing", x.known(3, 1), -2);
         R.due("10: the giver too", x.heard(0, 0, 60), 5);
         R.due("10: from its own", x.known(0, 0), 50);
         R.due("10: no such person", x.heard(10, 0, 60), NONE);
-        R.due("10: no such deed", x.heard(1, 1, 60), NONE);
+        R.due("10: no such deed", x.heard(1, 2, 60), NONE);
         R.due("10: no such day", x.heard(1, 0, 1000), NONE);
         for (int i = 6; i <= 60; i++) {
-            R.due("10: told", x.heard(4, 0, 999), i);
+            R.due("10: told", x.heard(4, 1, 999), i);
         }
-        R.due("10: 60 are", x.heard(4, 0, 60), NONE);
-        R.due("10: unchanged", x.known(4, 0), 999);
+        R.due("10: 60 are", x.heard(4, 1, 60), NONE);
+        R.due("10: unchanged", x.known(4, 1), 999);
+        R.due("10: of the other deed nothing", x.known(4, 0), -2);
         R.due("10: count", x.count(1), 60);
     }
 
@@ -277,9 +280,20 @@ public final class DeedsTest {
         R.due("36: again, as kept last", x.undo(), true);
         R.due("36: deeds", x.count(0), 2);
         x.deed(5, 3, 1, 25, 0, 5);
+        x.seed(500);
         R.due("35: kept anew", x.keep(), 3);
+        x.seed(600);
         R.due("36: as kept last", x.undo(), true);
         R.due("36: deeds", x.count(0), 3);
+        R.due("36: X", x.count(4), 500);
+        int forged = x.deed(2, 5, 1, 30, 0, 5);
+        x.forged(forged, true);
+        x.mule(forged, 30, 1, 2, 3);
+        x.undo();
+        R.due("25: of a deed that is undone nothing is left", x.trial(0, 2, 5, 30, 0, NONE, 30, 1), 0);
+        R.due("4: a new one is not forged", x.deedIs(x.deed(2, 6, 2, 30, 0, 5), 4), 0);
+        R.due("4: nor entered", x.deedIs(3, 1), NONE);
+        R.due("4: nor of the same strips", x.why(0, 3, 40), NONE);
     }
 
     private static void promise36UndoneTalk() {
@@ -326,6 +340,10 @@ public final class DeedsTest {
         R.due("37: the last", x.check(10, 8), 7);
         fill(x, 5, 0, 0, 1 << 24, 0, 0, 0, 3);
         R.due("37: all four bytes count", x.check(10, 8), 3);
+        for (int shift = 0; shift < 32; shift += 8) {
+            fill(x, 5, 0, 1 << shift, 0, 0, 0, 0, 3);
+            R.due("37: all four bytes count", x.check(10, 8), 2);
+        }
         fill(x, 5, 0, 0, 0, 0, 0, 0, 4);
         R.due("37: some are lacking", x.check(10, 7), 7);
         fill(x, 5, 0, 0, 0, 0, 0, 0, 3);

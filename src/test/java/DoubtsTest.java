@@ -153,6 +153,7 @@ public final class DoubtsTest {
         R.due("26: the day ahead", x.till(0, 0, 2, 12, 0, 30), 19);
         R.due("26: not entered by then", x.till(0, 0, 2, 12, 0, 19), 19);
         R.due("26: too late", x.till(0, 0, 2, 20, 0, 30), -2);
+        R.due("26: one that comes behind it", x.till(0, 0, 2, 5, 0, 30), 20);
         Texts.law(x, 0, "b(f=0)");
         x.lose(0);
         x.deed(0, 3, 1, 25, 0, 0);

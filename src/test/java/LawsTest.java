@@ -65,6 +65,10 @@ public final class LawsTest {
         for (String text : sound) {
             R.due("13: " + text, Texts.law(x, 0, text), 1);
         }
+        for (int i = 0; i < 9; i++) {
+            Texts.law(x, 0, "b(((((n=");
+        }
+        R.due("13: what was open in a text before is not", Texts.law(x, 0, sound[6]), 1);
         R.due("13: twelve", Texts.law(x, 0, "b(n=0)" + ";s(1=1)".repeat(11)), 12);
         R.due("13: counted", x.count(10), 12);
     }
@@ -261,6 +265,8 @@ public final class LawsTest {
         R.due("16: on day 20", x.beats(0, 0, 1, 20, 0), 1);
         Texts.law(x, 0, "b(c=0&u=0&v=0)");
         R.due("16: on day 19", x.beats(0, 0, 1, 19, 0), 1);
+        Texts.law(x, 0, "b(c=1&u=1&v=1)");
+        R.due("16: on day 21", x.beats(0, 0, 1, 21, 0), 1);
         x.lose(0);
         x.enter(0, 14, 0, 0, 0);
         holds(x, "c=0&f=1&w=0&i=0", true);
@@ -331,6 +337,14 @@ public final class LawsTest {
         lasts("yi*10+5(1=1)", 5);
         lasts("yq*10+5(1=1)", 5);
         lasts("y120-t+t(t>90)", 120);
+        WidowDeeds z = new WidowDeeds();
+        z.deed(0, 1, 1, 10, 1, 0);
+        z.deed(0, 2, 1, 12, 0, 7);
+        z.enter(1, 12, 0, 0, 0);
+        z.heard(2, 0, 10);
+        Texts.law(z, 0, "y5+n+f+c+v+p+x+w(1=1);s(p=0)");
+        R.due("19: a later deed is no part of it", z.burdens(0, 14), 1);
+        R.due("19: a later deed is no part of it", z.burdens(0, 15), 0);
         WidowDeeds x = new WidowDeeds();
         x.deed(0, 1, 1, 100, 1, 0);
         x.enter(0, 110, 0, 0, 0);
