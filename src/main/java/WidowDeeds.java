@@ -17,6 +17,7 @@ public final class WidowDeeds {
     private static final int KINDS = 3;
     private static final int PRICES = 10000;
     private static final int PAGES = 14;
+    private static final int PAGE_SETS = 1 << PAGES;
     private static final int SEEDS = 65536;
     private static final int BUYERS = 8;
     private static final int REIGN_DAYS = 100;
@@ -397,7 +398,7 @@ public final class WidowDeeds {
         if (!isDay(day) || n < 0 || n > tape.length / 4) {
             return ABSENT;
         }
-        tape.length = 0;
+        tape.length = 0; // the bytes themselves stay till the next are fed
         int told = Math.min(n, STRIPS);
         for (int s = 0; s < told; s++) {
             if (tape.wordAt(s) != chain.holderBy(s, day)) {
@@ -1263,6 +1264,7 @@ public final class WidowDeeds {
             return law.grants('s', facts);
         }
 
+        /** No later deed is asked about here, so the letters that tell of one are 0. */
         private int daysOnLand(int d) {
             Arrays.fill(facts, 0);
             gatherFactsOfOne(ledger.deeds[d]);
@@ -1374,14 +1376,23 @@ public final class WidowDeeds {
         int pagesToRead(int newStrip, int newDay) {
             holderBy(newStrip, newDay);
             gatherPageSets(namesInChain());
-            for (int size = 1; size <= PAGES && pageSetCount > 0; size++) {
-                for (int set = (1 << size) - 1; set < 1 << PAGES; set = nextOfSize(set)) {
-                    if (meetsAll(set)) {
-                        return set;
-                    }
-                }
+            int set = pageSetCount == 0 ? 0 : NONE;
+            for (int size = 1; size <= PAGES && set == NONE; size++) {
+                set = leastOfSize(size);
             }
-            return 0;
+            return set;
+        }
+
+        /** NONE if no set of so many pages will do; the sets come in their order as numbers. */
+        private int leastOfSize(int size) {
+            int set = (1 << size) - 1;
+            for (int tries = 0; tries < PAGE_SETS && set < PAGE_SETS; tries++) {
+                if (meetsAll(set)) {
+                    return set;
+                }
+                set = nextOfSize(set);
+            }
+            return NONE;
         }
 
         private int namesInChain() {
@@ -1490,11 +1501,13 @@ public final class WidowDeeds {
 
         /** The deed is the ledger's last one. */
         int lastUsefulEntry(int s, Deed deed, int by) {
-            for (int entry = by; entry >= deed.day; entry = turnAhead(entry, deed.day)) {
+            int entry = by;
+            for (int tries = 0; tries < DAYS && entry >= deed.day; tries++) {
                 deed.putIn(entry, 1);
                 if (chain.holderBy(s, by) == deed.taker) {
                     return entry;
                 }
+                entry = turnAhead(entry, deed.day);
             }
             return ABSENT;
         }
