@@ -202,11 +202,11 @@ final class Oracle {
         return wells.size();
     }
 
-    int feed(int... words) {
+    int feed(int a, int b, int c, int d, int e) {
         if (tape.size() + 20 > 200) {
             return NONE;
         }
-        for (int w : words) {
+        for (int w : new int[] {a, b, c, d, e}) {
             for (int k = 3; k >= 0; k--) {
                 tape.add(w >> 8 * k & 0xff);
             }

@@ -251,7 +251,7 @@ public final class OracleTest {
     }
 
     private void feed(int[] w) {
-        same("feed", real.feed(w[0], w[1], w[2], w[3], w[4]), oracle.feed(w));
+        same("feed", real.feed(w[0], w[1], w[2], w[3], w[4]), oracle.feed(w[0], w[1], w[2], w[3], w[4]));
     }
 
     private void drawBuyer() {
