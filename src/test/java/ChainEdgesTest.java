@@ -9,8 +9,8 @@ public final class ChainEdgesTest {
     private static final Edges WILD = new Edges(R, Script.of("deed 1 2 255 5 0 7", "enter 0 8 1 2 3"));
 
     /** Deed 0: 0 to 1, of all strips, on day 5; entered from day 8 on. Deed 1: a lien that 1 gives on day 6, for 9. */
-    private static final Edges SOLD = new Edges(R,
-        Script.of("deed 0 1 255 5 0 7", "enter 0 8 1 2 3", "deed 1 2 255 6 2 9", "enter 1 8 3 4 5"));
+    private static final Edges SOLD = new Edges(R, Script.of("deed 0 1 255 5 0 7", "enter 0 8 1 2 3",
+        "deed 1 2 255 6 2 9", "enter 1 8 3 4 5"));
 
     public static void main(String[] args) {
         promise14();
@@ -52,8 +52,8 @@ public final class ChainEdgesTest {
         EMPTY.beyond("14: no DEEDS yet", "known 0 #", -1, 0, 39);
         FULL.bounds("14: all 40 DEEDS", "known 1 #", 0, 0, 39, 40, -1);
         run("14: -2: never", "deed 0 1 1 0 0 0", "known 2 0 -> -2", "known 9 0 -> -2");
-        run("14: from DAY 0 and from DAY 999 on", "deed 0 1 1 0 0 0", "known 0 0 -> 0", "known 1 0 -> 0", "heard 2 0 999",
-            "known 2 0 -> 999", "deed 3 4 1 999 0 0", "known 3 1 -> 999", "known 4 1 -> 999");
+        run("14: from DAY 0 and from DAY 999 on", "deed 0 1 1 0 0 0", "known 0 0 -> 0", "known 1 0 -> 0",
+            "heard 2 0 999", "known 2 0 -> 999", "deed 3 4 1 999 0 0", "known 3 1 -> 999", "known 4 1 -> 999");
     }
 
     private static void promise15() {
@@ -70,12 +70,13 @@ public final class ChainEdgesTest {
         String wild = "WILD is a DEED for a STRIP on a DAY, if ..";
         run(wild + " its GIVER is not the FIRST OWNER", "deed 1 2 1 5 0 0", "seen 0 0 5 0 -> 1", "strip 0 1 0",
             "seen 0 0 5 0 -> 0", "strip 0 2 0", "seen 0 0 5 0 -> 1");
-        run(wild + " no DEED .. to its GIVER is ENTERED by then", "deed 1 2 1 5 0 0", "deed 0 1 1 3 0 0", "seen 0 0 9 0 -> 1",
-            "enter 1 8 0 0 0", "seen 0 0 7 0 -> 1", "seen 0 0 8 0 -> 0", "seen 0 0 999 0 -> 0", "lose 1", "seen 0 0 8 0 -> 1");
+        run(wild + " no DEED .. to its GIVER is ENTERED by then", "deed 1 2 1 5 0 0", "deed 0 1 1 3 0 0",
+            "seen 0 0 9 0 -> 1", "enter 1 8 0 0 0", "seen 0 0 7 0 -> 1", "seen 0 0 8 0 -> 0", "seen 0 0 999 0 -> 0",
+            "lose 1", "seen 0 0 8 0 -> 1");
         run(wild + " no DEED of KIND 0", "deed 1 2 1 5 0 0", "deed 0 1 1 3 1 0", "deed 0 1 1 3 2 0", "enter 1 3 0 0 0",
             "enter 2 3 0 0 0", "seen 0 0 9 0 -> 1");
-        run(wild + " no DEED of that STRIP", "deed 1 2 3 5 0 0", "deed 0 1 2 3 0 0", "enter 1 3 0 0 0", "seen 0 0 9 0 -> 1",
-            "seen 0 1 9 0 -> 0");
+        run(wild + " no DEED of that STRIP", "deed 1 2 3 5 0 0", "deed 0 1 2 3 0 0", "enter 1 3 0 0 0",
+            "seen 0 0 9 0 -> 1", "seen 0 1 9 0 -> 0");
         run(wild + " no DEED to its GIVER (not by it, not to its TAKER)", "deed 1 2 1 5 0 0", "deed 1 3 1 3 0 0",
             "deed 0 2 1 3 0 0", "enter 1 3 0 0 0", "enter 2 3 0 0 0", "seen 0 0 9 0 -> 1");
         run(wild + " (FORGED and MISNAMED ones count, later ones, too)", "deed 1 2 1 5 0 0", "deed 0 1 1 7 0 0",
@@ -115,9 +116,10 @@ public final class ChainEdgesTest {
             chain = chain.and("deed " + d % 10 + " " + (d + 1) % 10 + " 1 7 0 0");
         }
         Edges all = new Edges(R, chain);
-        all.gives("17: a CHAIN of 40", "holder 0 7 0 -> 0", "holder 0 7 1 -> 39", "holder 0 7 2 -> 40", "holder 0 7 10 -> 0",
-            "holder 0 7 49 -> 39", "holder 0 7 50 -> -2", "holder 0 6 2 -> 0", "why 0 39 7 -> 0", "why 0 39 6 -> 1",
-            "burdens 0 7 -> 0", "search 0 7 0 -> 0", "worst 7 0 -> 31", "worst 7 1 -> 1", "reign 0 0 0 9 -> 10", "holds 0 7 -> 255");
+        all.gives("17: a CHAIN of 40", "holder 0 7 0 -> 0", "holder 0 7 1 -> 39", "holder 0 7 2 -> 40",
+            "holder 0 7 10 -> 0", "holder 0 7 49 -> 39", "holder 0 7 50 -> -2", "holder 0 6 2 -> 0", "why 0 39 7 -> 0",
+            "why 0 39 6 -> 1", "burdens 0 7 -> 0", "search 0 7 0 -> 0", "worst 7 0 -> 31", "worst 7 1 -> 1",
+            "reign 0 0 0 9 -> 10", "holds 0 7 -> 255");
     }
 
     private static void termsChainDays() {
@@ -126,20 +128,22 @@ public final class ChainEdgesTest {
         run("THE CHAIN: on DAY 0", "deed 0 1 1 0 0 0", "deed 1 2 1 0 0 0", "holder 0 0 0 -> 2", "holder 0 0 2 -> 2");
         run("THE CHAIN: on DAY 999", "deed 0 1 1 999 0 0", "holder 0 998 0 -> 0", "holder 0 999 0 -> 1");
         run("THE CHAIN: of KIND 0", "deed 0 1 1 5 1 0", "deed 0 2 1 5 2 0", "holder 0 9 0 -> 0", "holder 0 9 2 -> 0");
-        run("THE CHAIN: of the STRIP", "deed 0 1 2 5 0 0", "holder 0 9 0 -> 0", "holder 1 9 0 -> 1", "holder 2 9 0 -> 0");
-        run("THE CHAIN: not VOID", "deed 0 1 1 5 0 0", "forged 0 true", "holder 0 9 0 -> 0", "forged 0 false", "dies 0 5",
-            "holder 0 9 0 -> 0", "dies 0 6", "holder 0 9 0 -> 1");
+        run("THE CHAIN: of the STRIP", "deed 0 1 2 5 0 0", "holder 0 9 0 -> 0", "holder 1 9 0 -> 1",
+            "holder 2 9 0 -> 0");
+        run("THE CHAIN: not VOID", "deed 0 1 1 5 0 0", "forged 0 true", "holder 0 9 0 -> 0", "forged 0 false",
+            "dies 0 5", "holder 0 9 0 -> 0", "dies 0 6", "holder 0 9 0 -> 1");
         run("THE CHAIN: whose GIVER is who holds it now", "deed 1 2 1 5 0 0", "holder 0 9 0 -> 0", "deed 0 1 1 4 0 0",
             "holder 0 9 0 -> 2");
     }
 
     private static void termsChainOrder() {
-        run("which stand behind the DEED by which: a lower DAY", "deed 0 1 1 5 0 0", "deed 1 2 1 4 0 0", "holder 0 9 0 -> 1");
+        run("which stand behind the DEED by which: a lower DAY", "deed 0 1 1 5 0 0", "deed 1 2 1 4 0 0",
+            "holder 0 9 0 -> 1");
         run("..: the same DAY, a lower number", "deed 1 2 1 5 0 0", "deed 0 1 1 5 0 0", "holder 0 9 0 -> 1");
         run("..: the same DAY, a higher number", "deed 0 1 1 5 0 0", "deed 1 2 1 5 0 0", "holder 0 9 0 -> 2");
         run("..: a higher DAY, a lower number", "deed 1 2 1 6 0 0", "deed 0 1 1 5 0 0", "holder 0 9 0 -> 2");
-        run("..: back to one who held it", "deed 0 1 1 5 0 0", "deed 1 0 1 5 0 0", "deed 0 2 1 5 0 0", "holder 0 9 0 -> 2",
-            "holder 0 9 2 -> 3");
+        run("..: back to one who held it", "deed 0 1 1 5 0 0", "deed 1 0 1 5 0 0", "deed 0 2 1 5 0 0",
+            "holder 0 9 0 -> 2", "holder 0 9 2 -> 3");
         run("from the FIRST OWNER: any", "strip 0 3 0", "deed 3 1 1 0 0 0", "holder 0 0 0 -> 1");
     }
 
@@ -152,8 +156,8 @@ public final class ChainEdgesTest {
         run("..: like ones do not", "law 0 b(p>g)", "deed 0 1 1 5 0 10", "deed 0 2 1 6 0 10", "holder 0 9 0 -> 1");
         run("..: by THE STRIP's LAW", "law 1 b(1=1)", "strip 1 0 1", "deed 0 1 3 5 0 0", "deed 0 2 3 6 0 0",
             "holder 0 9 0 -> 1", "holder 1 9 0 -> 2");
-        run("..: that DAY being asked about", "law 0 b(t=9)", "deed 0 1 1 5 0 0", "deed 0 2 1 6 0 0", "holder 0 8 0 -> 1",
-            "holder 0 9 0 -> 2", "holder 0 10 0 -> 1");
+        run("..: that DAY being asked about", "law 0 b(t=9)", "deed 0 1 1 5 0 0", "deed 0 2 1 6 0 0",
+            "holder 0 8 0 -> 1", "holder 0 9 0 -> 2", "holder 0 10 0 -> 1");
     }
 
     private static void promise18Bounds() {
@@ -166,7 +170,8 @@ public final class ChainEdgesTest {
         SOME.refuses("18: another KIND: a LIEN", "why 0 4 20 -> -1");
         SOME.refuses("18: no STRIP of its", "why 1 0 20 -> -1", "why 0 7 999 -> -1", "why 0 8 20 -> -1");
         EMPTY.refuses("18: no DEEDS yet", "why 0 0 0 -> -1");
-        FULL.gives("18: the last of 40", "why 0 39 40 -> 0", "why 0 39 39 -> 1", "why 1 39 40 -> 5", "why 0 40 40 -> -1");
+        FULL.gives("18: the last of 40", "why 0 39 40 -> 0", "why 0 39 39 -> 1", "why 1 39 40 -> 5",
+            "why 0 40 40 -> -1");
     }
 
     private static void promise18EachReason() {
@@ -183,12 +188,13 @@ public final class ChainEdgesTest {
 
     private static void promise18TheLowest() {
         run("18: the lowest of these: 1 of all", "deed 8 1 1 5 0 0", "forged 0 true", "dies 8 5", "why 0 0 4 -> 1");
-        run("18: the lowest of these: 2 ahead of 3 and 5", "deed 8 1 1 5 0 0", "forged 0 true", "dies 8 5", "why 0 0 5 -> 2");
+        run("18: the lowest of these: 2 ahead of 3 and 5", "deed 8 1 1 5 0 0", "forged 0 true", "dies 8 5",
+            "why 0 0 5 -> 2");
         run("18: the lowest of these: 3 ahead of 5", "deed 8 1 1 5 0 0", "dies 8 5", "why 0 0 5 -> 3");
         run("18: 4: looked at from one holder is enough", "deed 0 1 1 5 0 0", "deed 0 3 1 7 0 0", "deed 1 2 1 8 0 0",
             "why 0 1 9 -> 4");
-        run("18: 0 ahead of 4: looked at first, in it later", "deed 0 1 1 5 0 0", "deed 0 2 1 7 0 0", "deed 1 0 1 6 0 0",
-            "why 0 1 9 -> 0");
+        run("18: 0 ahead of 4: looked at first, in it later", "deed 0 1 1 5 0 0", "deed 0 2 1 7 0 0",
+            "deed 1 0 1 6 0 0", "why 0 1 9 -> 0");
     }
 
     private static void promise19Bounds() {
@@ -208,7 +214,8 @@ public final class ChainEdgesTest {
         run(at + "ahead of all DEEDS", "deed 0 5 1 4 1 0", "deed 0 1 1 5 0 0", "burdens 0 9 -> 1");
         run(at + "the same DAY, a lower number", "deed 0 5 1 5 1 0", "deed 0 1 1 5 0 0", "burdens 0 9 -> 1");
         run(at + "the same DAY, a higher number", "deed 0 1 1 5 0 0", "deed 0 5 1 5 1 0", "burdens 0 9 -> 0");
-        run(at + "its TAKER, the same DAY, a higher number", "deed 0 1 1 5 0 0", "deed 1 5 1 5 1 0", "burdens 0 9 -> 2");
+        run(at + "its TAKER, the same DAY, a higher number", "deed 0 1 1 5 0 0", "deed 1 5 1 5 1 0",
+            "burdens 0 9 -> 2");
         run(at + "its TAKER, the same DAY, a lower number", "deed 1 5 1 5 1 0", "deed 0 1 1 5 0 0", "burdens 0 9 -> 0");
         run(at + "between two", "deed 0 1 1 5 0 0", "deed 1 2 1 7 0 0", "deed 1 5 1 6 1 0", "deed 0 5 1 6 1 0",
             "deed 2 5 1 6 1 0", "burdens 0 9 -> 4");
@@ -216,18 +223,20 @@ public final class ChainEdgesTest {
     }
 
     private static void promise19Void() {
-        run("19: not VOID", "deed 0 5 1 5 1 0", "burdens 0 9 -> 1", "forged 0 true", "burdens 0 9 -> 0", "forged 0 false",
-            "dies 0 5", "burdens 0 9 -> 0", "dies 0 6", "burdens 0 9 -> 1");
+        run("19: not VOID", "deed 0 5 1 5 1 0", "burdens 0 9 -> 1", "forged 0 true", "burdens 0 9 -> 0",
+            "forged 0 false", "dies 0 5", "burdens 0 9 -> 0", "dies 0 6", "burdens 0 9 -> 1");
     }
 
     private static void promise19Shed() {
         String shed = "which no DEED of THE CHAIN that stands behind it SHEDS: ";
-        run(shed + "behind it", "law 0 s(1=1)", "deed 0 5 1 5 1 0", "deed 0 1 1 5 0 0", "burdens 0 4 -> 0", "burdens 0 5 -> 0");
+        run(shed + "behind it", "law 0 s(1=1)", "deed 0 5 1 5 1 0", "deed 0 1 1 5 0 0", "burdens 0 4 -> 0",
+            "burdens 0 5 -> 0");
         run(shed + "not ahead of it", "law 0 s(1=1)", "deed 0 1 1 5 0 0", "deed 1 5 1 5 1 0", "burdens 0 5 -> 2");
         run(shed + "of a DAY behind that one there is none", "law 0 s(1=1)", "deed 0 5 1 5 1 0", "deed 0 1 1 6 0 0",
             "burdens 0 5 -> 1", "burdens 0 6 -> 0");
         run(shed + "not in THE CHAIN", "law 0 s(1=1)", "deed 0 5 1 5 1 0", "deed 3 1 1 6 0 0", "burdens 0 9 -> 1");
-        run(shed + "LANES and LIENS do not", "law 0 s(1=1)", "deed 0 5 1 5 1 0", "deed 0 1 1 6 1 0", "burdens 0 9 -> 3");
+        run(shed + "LANES and LIENS do not", "law 0 s(1=1)", "deed 0 5 1 5 1 0", "deed 0 1 1 6 1 0",
+            "burdens 0 9 -> 3");
         run(shed + "any of them", "law 0 s(p=3)", "deed 0 5 1 5 1 0", "deed 0 1 1 6 0 1", "deed 1 2 1 7 0 2",
             "deed 2 3 1 8 0 3", "burdens 0 7 -> 1", "burdens 0 8 -> 0");
         String last = "and that last: their DAY and y is behind that DAY: ";
@@ -241,7 +250,8 @@ public final class ChainEdgesTest {
         SOLD.bounds("20: DAY 0 to 999", "owed 0 #", 0, 0, 999, 9, -1);
         EMPTY.gives("20: no DEEDS yet", "owed 0 0 -> 0", "owed 7 999 -> 0");
         run("20: of LIENS among them, not of LANES", "deed 0 5 1 5 1 100", "deed 0 5 1 5 2 20", "deed 0 5 1 5 2 3",
-            "deed 0 5 2 5 2 1000", "burdens 0 5 -> 7", "owed 0 5 -> 23", "owed 0 4 -> 0", "forged 1 true", "owed 0 5 -> 3");
+            "deed 0 5 2 5 2 1000", "burdens 0 5 -> 7", "owed 0 5 -> 23", "owed 0 4 -> 0", "forged 1 true",
+            "owed 0 5 -> 3");
     }
 
     private static void promise21() {
@@ -256,8 +266,8 @@ public final class ChainEdgesTest {
     }
 
     private static void promise21Days() {
-        run("CAN'T BE SEEN: of a DAY not behind the told one, not ENTERED by then", "deed 0 1 1 5 0 0", "unseen 0 4 0 -> 0",
-            "unseen 0 5 0 -> 1", "enter 0 8 0 0 0", "unseen 0 7 0 -> 1", "unseen 0 8 0 -> 0");
+        run("CAN'T BE SEEN: of a DAY not behind the told one, not ENTERED by then", "deed 0 1 1 5 0 0",
+            "unseen 0 4 0 -> 0", "unseen 0 5 0 -> 1", "enter 0 8 0 0 0", "unseen 0 7 0 -> 1", "unseen 0 8 0 -> 0");
         run("CAN'T BE SEEN: those that are, and MISNAMED", "deed 0 1 1 5 0 0", "enter 0 8 0 0 0", "name 0 1",
             "unseen 0 7 1 -> 0", "unseen 0 7 0 -> 1", "unseen 0 8 1 -> 1", "unseen 0 8 0 -> 0");
         run("CAN'T BE SEEN: and WILD", "deed 1 2 1 5 0 0", "enter 0 8 0 0 0", "unseen 0 7 2 -> 0", "unseen 0 8 2 -> 1",
@@ -279,16 +289,17 @@ public final class ChainEdgesTest {
     private static void promise22Fewest() {
         Script pages = Offices.EMPTY;
         for (int page = 0; page < 14; page++) {
-            pages = pages.and("deed 0 1 1 5 1 0", "enter " + page + " " + (5 + page) + " " + page + " " + page + " " + page);
+            pages = pages.and("deed 0 1 1 5 1 0",
+                "enter " + page + " " + (5 + page) + " " + page + " " + page + " " + page);
         }
         Edges all = new Edges(R, pages);
-        all.gives("22: the first PAGE, then all 14", "search 0 5 1 -> 1", "search 0 18 0 -> 14", "search 0 18 1 -> 16383",
-            "search 0 17 1 -> 8191", "search 0 17 0 -> 13");
+        all.gives("22: the first PAGE, then all 14", "search 0 5 1 -> 1", "search 0 18 0 -> 14",
+            "search 0 18 1 -> 16383", "search 0 17 1 -> 8191", "search 0 17 0 -> 13");
         run("22: the last PAGE alone", "deed 0 1 1 5 1 0", "enter 0 5 13 13 13", "search 0 5 1 -> 8192");
         run("22: each on one of its PAGES: of like ones the least set", "deed 0 1 1 5 1 0", "enter 0 5 13 4 9",
             "search 0 5 1 -> 16");
-        run("22: the fewest PAGES, though not the least set", "deed 0 1 1 5 1 0", "deed 0 1 1 5 1 0", "enter 0 5 0 0 13",
-            "enter 1 5 1 1 13", "search 0 5 0 -> 1", "search 0 5 1 -> 8192");
+        run("22: the fewest PAGES, though not the least set", "deed 0 1 1 5 1 0", "deed 0 1 1 5 1 0",
+            "enter 0 5 0 0 13", "enter 1 5 1 1 13", "search 0 5 0 -> 1", "search 0 5 1 -> 8192");
         run("22: of like ones the least set: of two", "deed 0 1 1 5 1 0", "deed 0 1 1 5 1 0", "deed 0 1 1 5 1 0",
             "deed 0 1 1 5 1 0", "enter 0 5 0 1 1", "enter 1 5 0 2 2", "enter 2 5 1 3 3", "enter 3 5 2 3 3",
             "search 0 5 0 -> 2", "search 0 5 1 -> 6");
@@ -302,10 +313,11 @@ public final class ChainEdgesTest {
             "search 0 5 1 -> 0");
         run(name + "a TAKER in it, from its DAY on", "deed 1 2 1 5 1 0", "enter 0 5 3 3 3", "search 0 9 1 -> 0",
             "deed 0 1 1 8 0 0", "search 0 7 1 -> 0", "search 0 8 1 -> 8", "search 0 7 1 -> 0");
-        run(name + "who held it and gave it on", "deed 0 1 1 5 0 0", "deed 1 2 1 6 0 0", "deed 1 3 1 5 1 0", "enter 2 5 3 3 3",
-            "search 0 9 1 -> 8");
-        run(name + "told in place of its GIVER's", "deed 0 1 1 5 1 0", "enter 0 5 3 3 3", "name 0 7", "search 0 5 1 -> 0",
-            "deed 8 1 1 5 1 0", "enter 1 5 4 4 4", "search 0 5 1 -> 0", "name 1 0", "search 0 5 1 -> 16");
+        run(name + "who held it and gave it on", "deed 0 1 1 5 0 0", "deed 1 2 1 6 0 0", "deed 1 3 1 5 1 0",
+            "enter 2 5 3 3 3", "search 0 9 1 -> 8");
+        run(name + "told in place of its GIVER's", "deed 0 1 1 5 1 0", "enter 0 5 3 3 3", "name 0 7",
+            "search 0 5 1 -> 0", "deed 8 1 1 5 1 0", "enter 1 5 4 4 4", "search 0 5 1 -> 0", "name 1 0",
+            "search 0 5 1 -> 16");
         run(name + "of the STRIP", "deed 0 1 2 5 1 0", "enter 0 5 3 3 3", "search 0 5 1 -> 0", "search 1 5 1 -> 8");
         run(name + "FORGED ones, too", "deed 0 1 1 5 0 0", "enter 0 5 3 3 3", "forged 0 true", "search 0 5 1 -> 8");
     }
@@ -328,10 +340,10 @@ public final class ChainEdgesTest {
         SOLD.bounds("33: 100 DAYS at most, not ahead of it", "reign 0 1 100 #", 100, 1, 199, 100, -1);
         SOLD.bounds("33: 100 DAYS at most, the first", "reign 0 1 # 999", 900, 100, 999, 1, -1);
         SOLD.bounds("33: from the first DAY on", "reign 0 1 0 #", 0, 0, 99, 95, -1);
-        SOLD.gives("33: both with it", "reign 0 1 4 5 -> 1", "reign 0 1 5 6 -> 2", "reign 0 0 4 5 -> 1", "reign 0 0 3 4 -> 2",
-            "reign 0 1 5 5 -> 1", "reign 0 1 4 4 -> 0");
+        SOLD.gives("33: both with it", "reign 0 1 4 5 -> 1", "reign 0 1 5 6 -> 2", "reign 0 0 4 5 -> 1",
+            "reign 0 0 3 4 -> 2", "reign 0 1 5 5 -> 1", "reign 0 1 4 4 -> 0");
         SOLD.refuses("33: ahead of it", "reign 0 1 9 8 -> -1", "reign 0 1 999 0 -> -1");
-        run("33: by that DAY, each by its own", "law 0 b(t%2=0)", "deed 0 1 1 5 0 0", "deed 0 2 1 5 0 0", "reign 0 1 5 9 -> 3",
-            "reign 0 2 5 9 -> 2", "reign 0 0 0 9 -> 5");
+        run("33: by that DAY, each by its own", "law 0 b(t%2=0)", "deed 0 1 1 5 0 0", "deed 0 2 1 5 0 0",
+            "reign 0 1 5 9 -> 3", "reign 0 2 5 9 -> 2", "reign 0 0 0 9 -> 5");
     }
 }

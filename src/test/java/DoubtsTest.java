@@ -284,8 +284,8 @@ public final class DoubtsTest {
         Script office = Script.of("law 0 b(c=1)", "deed 0 1 1 10 0 0", "deed 0 2 1 11 0 0", "deed 0 3 1 12 0 0",
             "enter 0 20 1 2 3", "name 0 6", "forged 2 true");
         String before = States.of(office::office);
-        String[] thoughts = {"worst 30 0", "missing 30 0", "trial 0 0 4 5 0 9 30 0", "till 0 0 4 5 0 30", "fewest 0 2 30 0",
-            "odds 0 2 2 12 30 0", "reign 0 1 0 50", "search 0 30 1"};
+        String[] thoughts = {"worst 30 0", "missing 30 0", "trial 0 0 4 5 0 9 30 0", "till 0 0 4 5 0 30",
+            "fewest 0 2 30 0", "odds 0 2 2 12 30 0", "reign 0 1 0 50", "search 0 30 1"};
         for (String thought : thoughts) {
             String after = States.of(() -> office.and(thought).office());
             R.due("23 to 28: nothing is left of " + thought, after.equals(before), true);

@@ -1,8 +1,8 @@
 import java.util.Arrays;
 
 /**
- * Calls at the edges of what the document allows, as rows of text with the answer that is due ("dies 10 5 -> 0"). Each row
- * is put to an office that is made for it alone.
+ * Calls at the edges of what the document allows, as rows of text with the answer that is due ("dies 10 5 -> 0"). Each
+ * row is put to an office that is made for it alone.
  */
 final class Edges {
     private final Report report;
@@ -55,8 +55,8 @@ final class Edges {
     }
 
     /**
-     * A row with a # for the number that has bounds: what is due for the lowest and the highest; the ones next to them and
-     * the farthest there are must be refused.
+     * A row with a # for the number that has bounds: what is due for the lowest and the highest; the ones next to them
+     * and the farthest there are must be refused.
      */
     void bounds(String sentence, String row, int low, long dueLow, int high, long dueHigh, long refusal) {
         gives(sentence, fill(row, low) + " -> " + dueLow, fill(row, high) + " -> " + dueHigh);

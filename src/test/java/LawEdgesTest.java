@@ -1,4 +1,4 @@
-/** Each sentence of promises 12, 13 and 16 that names an edge, and of the terms on laws: the tape, texts, faults, letters. */
+/** Each sentence of promises 12, 13 and 16 that names an edge, and of the terms on laws: texts, faults, letters. */
 public final class LawEdgesTest {
     private static final Report R = new Report("LawEdgesTest");
     private static final Edges SOME = new Edges(R, Offices.SOME);
@@ -59,7 +59,8 @@ public final class LawEdgesTest {
                 }
                 row.append(' ').append(words[w]);
             }
-            run("12: the highest of each int first: a byte at each place", row.toString(), "law 0 20 -> " + (-1000 - place));
+            run("12: the highest of each int first: a byte at each place", row.toString(),
+                "law 0 20 -> " + (-1000 - place));
         }
         run("12: Twenty bytes come behind the tape", "feed 1646816829 824785779 677788976 691763510 807955261",
             "feed 824795489 0 0 0 0 -> 40", "law 0 22 -> 3");
@@ -71,7 +72,8 @@ public final class LawEdgesTest {
 
     private static void promise13Which() {
         SOME.bounds("13: THE LAWS 0 to 2", "law # 21", 0, 3, 2, 3, -1);
-        run("13: LAW i alone", "law 0 b(1=1)", "law 2 b(1=1);b(1=1)", "count 10 -> 1", "count 11 -> 0", "count 12 -> 2");
+        run("13: LAW i alone", "law 0 b(1=1)", "law 2 b(1=1);b(1=1)", "count 10 -> 1", "count 11 -> 0",
+            "count 12 -> 2");
     }
 
     private static void promise13HowManyBytes() {
@@ -95,8 +97,16 @@ public final class LawEdgesTest {
 
     private static void promise13TheTextBefore() {
         run("13: a FAULT: the TEXT before stays", "deed 0 1 1 5 0 0", "deed 0 2 1 6 0 0", "law 0 b(1=1);b(2=2) -> 2",
-            "law 0 s(1=1);b(1=0) -> 2", "beats 0 0 1 9 0 -> 0", "beats 0 0 1 9 1 -> 1", "law 0 b(1=1);s(1=0);y -> -1015",
-            "count 10 -> 2", "beats 0 0 1 9 0 -> 0", "beats 0 0 1 9 1 -> 1");
+            "law 0 s(1=1);b(1=0) -> 2", "beats 0 0 1 9 0 -> 0", "beats 0 0 1 9 1 -> 1",
+            "law 0 b(1=1);s(1=0);y -> -1015", "count 10 -> 2", "beats 0 0 1 9 0 -> 0", "beats 0 0 1 9 1 -> 1");
+        String emptied = States.of(() -> Offices.SOME.and("check 0 0").office());
+        for (int n = 1; n <= 20; n++) {
+            String call = "law 0 " + n;
+            if (n != 6 && n != 13) {
+                R.due("13: a FAULT changes nothing but the tape | " + call,
+                    States.of(() -> Offices.SOME.and(call).office()).equals(emptied), true);
+            }
+        }
         run("13: a FAULT, and no TEXT before", "law 0 b(1=1);s(1=0);y -> -1015", "count 10 -> 0");
         run("13: in place of the one before: fewer CLAUSES", "deed 0 1 1 5 0 0", "deed 0 2 1 6 0 0",
             "law 0 b(1=0);b(1=1);s(1=1) -> 3", "law 0 b(1=0) -> 1", "count 10 -> 1", "beats 0 0 1 9 0 -> 0",
@@ -105,7 +115,8 @@ public final class LawEdgesTest {
 
     private static void termsClauses() {
         for (int count = 1; count <= 12; count++) {
-            run("CLAUSES (12 at most)", "law 0 " + "b(n=1);".repeat(count - 1) + "y2(1=1) -> " + count, "count 10 -> " + count);
+            run("CLAUSES (12 at most)", "law 0 " + "b(n=1);".repeat(count - 1) + "y2(1=1) -> " + count,
+                "count 10 -> " + count);
         }
         String twelve = "b(n=1);".repeat(11) + "b(n=1)";
         run("4 a 13th CLAUSE, at its letter", "law 0 " + twelve + ";b(n=1) -> -4084", "count 10 -> 0");
@@ -113,10 +124,16 @@ public final class LawEdgesTest {
             "law 0 " + twelve + ";y -> -4084");
         run("4 .. (if that can stand there)", "law 0 " + twelve + ";x(n=1) -> -1084", "law 0 " + twelve + ";; -> -1084",
             "law 0 " + twelve + "; -> -1084", "law 0 " + twelve + "b -> -1083");
-        run("the twelfth CLAUSE counts", "deed 0 1 1 5 0 0", "deed 0 2 1 6 0 0", "law 0 " + "b(1=0);".repeat(11) + "b(1=1)",
-            "beats 0 0 1 9 0 -> 1");
-        run("none of twelve holds", "deed 0 1 1 5 0 0", "deed 0 2 1 6 0 0", "deed 0 3 2 6 1 0", "law 0 " + "b(1=0);".repeat(11)
-            + "b(1=0) -> 12", "beats 0 0 1 9 0 -> 0", "law 0 " + "y1(1=0);".repeat(11) + "y1(1=0) -> 12", "burdens 1 999 -> 4");
+        run("the twelfth CLAUSE counts", "deed 0 1 1 5 0 0", "deed 0 2 1 6 0 0",
+            "law 0 " + "b(1=0);".repeat(11) + "b(1=1)", "beats 0 0 1 9 0 -> 1");
+        for (String text : new String[] {"b(1=1);b(1=0);b(1=0)", "b(1=0);b(1=1);b(1=0)", "b(1=0);b(1=0);b(1=1)"}) {
+            run("of b, s any CLAUSE will do", "deed 0 1 1 5 0 0", "deed 0 2 1 6 0 0", "law 0 " + text + " -> 3",
+                "beats 0 0 1 9 0 -> 1", "beats 0 0 1 9 1 -> 0", "law 0 " + text.replace('b', 's') + " -> 3",
+                "beats 0 0 1 9 1 -> 1", "beats 0 0 1 9 0 -> 0");
+        }
+        run("none of twelve holds", "deed 0 1 1 5 0 0", "deed 0 2 1 6 0 0", "deed 0 3 2 6 1 0",
+            "law 0 " + "b(1=0);".repeat(11) + "b(1=0) -> 12", "beats 0 0 1 9 0 -> 0",
+            "law 0 " + "y1(1=0);".repeat(11) + "y1(1=0) -> 12", "burdens 1 999 -> 4");
         run("the twelfth CLAUSE counts for y", "deed 0 1 1 5 1 0", "law 0 " + "y9(1=0);".repeat(11) + "y3(1=1) -> 12",
             "burdens 0 7 -> 1", "burdens 0 8 -> 0");
     }
@@ -137,7 +154,8 @@ public final class LawEdgesTest {
         for (int n = 1; n < text.length(); n++) {
             boolean isSound = text.charAt(n) == ';';
             int clauses = (int) text.substring(0, n).chars().filter(c -> c == ';').count() + 1;
-            run("13: by the first n bytes of the tape", "text " + text, "law 0 " + n + " -> " + (isSound ? clauses : -1000 - n));
+            run("13: by the first n bytes of the tape", "text " + text,
+                "law 0 " + n + " -> " + (isSound ? clauses : -1000 - n));
         }
         run("13: by the first n bytes of the tape: all", "law 0 " + text + " -> 4");
     }
@@ -203,32 +221,33 @@ public final class LawEdgesTest {
             int answer = Texts.law(x, 0, text);
             boolean isAtIt = answer == -1000 - head.length();
             R.due("1 what can't stand there: " + sign + " behind " + head + ", answer " + answer, isAtIt,
-                    canStand.indexOf(sign) < 0);
+                canStand.indexOf(sign) < 0);
         }
     }
 
     private static void termsEnds() {
-        String[] heads = {"b", "s", "y", "y1", "y1+", "y[", "y[1", "b(", "b(!", "b((", "b([", "b(n", "b(n+", "b(n=", "b(n=1",
-            "b(n=1&", "b(n=1|", "b((n=1)", "b(n=1);", "y1(n=1);y"};
+        String[] heads = {"b", "s", "y", "y1", "y1+", "y[", "y[1", "b(", "b(!", "b((", "b([", "b(n", "b(n+", "b(n=",
+            "b(n=1", "b(n=1&", "b(n=1|", "b((n=1)", "b(n=1);", "y1(n=1);y"};
         for (String head : heads) {
             run("1 what can't stand there (the end, too)", "law 0 " + head + " -> " + (-1000 - head.length()),
                 "count 10 -> 0");
         }
-        run("no blanks", "law 0 b(n=1 ) -> -1005", "text  b(n=1)", "law 0 7 -> -1000", "text b(n=1) ", "law 0 7 -> -1006");
+        run("no blanks", "law 0 b(n=1 ) -> -1005", "text  b(n=1)", "law 0 7 -> -1000", "text b(n=1) ",
+            "law 0 7 -> -1006");
     }
 
     private static void termsDigits() {
         run("a number of one to five digits", "law 0 b(1=1) -> 1", "law 0 b(99999=1) -> 1", "law 0 b(00000=1) -> 1",
             "law 0 b(n=99999) -> 1", "law 0 y99999(n=1) -> 1", "law 0 b([12345]=1) -> 1");
-        run("2 a sixth digit, at it", "law 0 b(100000=1) -> -2007", "law 0 b(000001=1) -> -2007", "law 0 b(n=123456) -> -2009",
-            "law 0 y123456(n=1) -> -2006", "law 0 b([123456]=1) -> -2008", "law 0 b(n=1234567) -> -2009",
-            "law 0 b(12345+123456=1) -> -2013");
+        run("2 a sixth digit, at it", "law 0 b(100000=1) -> -2007", "law 0 b(000001=1) -> -2007",
+            "law 0 b(n=123456) -> -2009", "law 0 y123456(n=1) -> -2006", "law 0 b([123456]=1) -> -2008",
+            "law 0 b(n=1234567) -> -2009", "law 0 b(12345+123456=1) -> -2013");
         run("digits of two numbers do not count together", "law 0 b(12345+12345=12345) -> 1");
     }
 
     private static void termsOpen() {
-        String[] six = {"b((((((n=0))))))", "b(!!!!!n=0)", "b([[[[[n]]]]]=0)", "b(n=[[[[[0]]]]])", "y[[[[[[1]]]]]](n=0)",
-            "b(!(!([n]=0)))", "b((((([n]=0)))))", "b(!!!!!n=0&!!!!!n=0|(((((n=0))))))",
+        String[] six = {"b((((((n=0))))))", "b(!!!!!n=0)", "b([[[[[n]]]]]=0)", "b(n=[[[[[0]]]]])",
+            "y[[[[[[1]]]]]](n=0)", "b(!(!([n]=0)))", "b((((([n]=0)))))", "b(!!!!!n=0&!!!!!n=0|(((((n=0))))))",
             "y[[[[[[1]]]]]]+[[[[[[1]]]]]]((((((n=0))))))", "b((((((n=0)&(n=0)))))&(((((n=0))))))"};
         for (String text : six) {
             run("six of ( [ ! may be open in one another", "law 0 " + text + " -> 1");
@@ -236,7 +255,8 @@ public final class LawEdgesTest {
         run("5 a seventh of ( [ !, at it", "law 0 b(((((((n=0))))))) -> -5007", "law 0 b(!!!!!!n=0) -> -5007",
             "law 0 b([[[[[[n]]]]]]=0) -> -5007", "law 0 b(n=[[[[[[0]]]]]]) -> -5009", "law 0 b(!(!(![n]=0))) -> -5007",
             "law 0 b(!!!!!(n=0)) -> -5007", "law 0 b((((([[n]]=0))))) -> -5007", "law 0 b(((((!!n=0))))) -> -5007");
-        run("the ( of the CLAUSE counts", "law 0 b(((((((n -> -5007", "law 0 s(((((((n -> -5007", "law 0 y1(((((((n -> -5008");
+        run("the ( of the CLAUSE counts", "law 0 b(((((((n -> -5007", "law 0 s(((((((n -> -5007",
+            "law 0 y1(((((((n -> -5008");
         run("a ! is open till its PIECE ends", "law 0 b(!n=0&!n=0&!n=0&!n=0&!n=0&!n=0&!n=0) -> 1",
             "law 0 b(!!!!!n=0&!!!!!!n=0) -> -5016", "law 0 b(!!!!!n=[0]) -> -5009", "law 0 b(!!!!n=[0]&!!!!!n=0) -> 1",
             "law 0 b(!!!!(n=0)&!!!!!n=0) -> 1");
@@ -289,6 +309,8 @@ public final class LawEdgesTest {
         holds("!PIECE", "!!1=0", false);
         holds("!PIECE", "!(1=1|1=0)", false);
         holds("!PIECE: it ends ahead of the &", "!1=0&1=0", false);
+        holds("TERMS with + or -, FACTORS with one of * / %", "2+3*4-6/2=11", true);
+        holds("a FACTOR: [E]", "[2+3]*[4-2]=10", true);
         holds("from the left on", "10-3-2=5", true);
         holds("from the left on", "100/5/2*3%7=2", true);
         holds("E, one of < > =, and E: like ones", "5<5", false);
@@ -308,11 +330,13 @@ public final class LawEdgesTest {
             "beats 0 0 1 9 0 -> 1");
         run(refused + ", of s, too", "deed 0 1 1 5 0 0", "deed 0 2 1 6 0 0", "law 0 s(1/0=0)", "beats 0 0 1 9 1 -> 0",
             "law 0 s(1%0=0);s(1=1)", "beats 0 0 1 9 1 -> 1");
-        run("REFUSED: an E is 0: for good", "deed 0 1 1 5 1 0", "law 0 y5/0(1=1)", "burdens 0 999 -> 1", "law 0 y9+5%0(1=1)",
-            "burdens 0 999 -> 1", "law 0 y5/0(1=1);y2(1=1)", "burdens 0 999 -> 1");
+        run("REFUSED: an E is 0: for good", "deed 0 1 1 5 1 0", "law 0 y5/0(1=1)", "burdens 0 999 -> 1",
+            "law 0 y9+5%0(1=1)", "burdens 0 999 -> 1", "law 0 y5/0(1=1);y2(1=1)", "burdens 0 999 -> 1");
         Script refusals = Script.of("deed 0 1 1 5 0 0", "deed 0 2 1 6 0 0", "law 0 b(1+[2+[3+[4+5/0]]]=1)");
-        R.due(refused + ", again and again", refusals.times(100, "beats 0 0 1 # 0").and("law 0 b(1+[2+[3+[4+5]]]=15)").office()
-            .beats(0, 0, 1, 9, 0), 1);
+        for (int times = 1; times <= 20; times++) {
+            WidowDeeds x = refusals.times(times, "beats 0 0 1 # 0").and("law 0 b(7+[7+[7+[7+7]]]=35)").office();
+            R.due(refused + ", again and again: " + times, x.beats(0, 0, 1, 9, 0), 1);
+        }
         run("REFUSED: a C of y does not hold", "deed 0 1 1 5 1 0", "law 0 y3(1/0=0);y2(1=1)", "burdens 0 6 -> 1",
             "burdens 0 7 -> 0");
     }
@@ -376,12 +400,14 @@ public final class LawEdgesTest {
     }
 
     private static void termsNumbersOfDeeds() {
-        run("p what was PAID for e, g for d: 0 and 9999", "deed 0 1 1 5 0 0", "deed 0 2 1 6 0 9999", "law 0 b(p=9999&g=0)",
+        run("p what was PAID for e, g for d: 0 and 9999", "deed 0 1 1 5 0 0", "deed 0 2 1 6 0 9999",
+            "law 0 b(p=9999&g=0)", "beats 0 0 1 9 0 -> 1");
+        run("p what was PAID for e, g for d: 9999 and 0", "deed 0 1 1 5 0 9999", "deed 0 2 1 6 0 0",
+            "law 0 b(p=0&g=9999)", "beats 0 0 1 9 0 -> 1");
+        run("x DAYS from d's to e's: none", "deed 0 1 1 5 0 0", "deed 0 2 1 5 0 0", "law 0 b(x=0)",
             "beats 0 0 1 9 0 -> 1");
-        run("p what was PAID for e, g for d: 9999 and 0", "deed 0 1 1 5 0 9999", "deed 0 2 1 6 0 0", "law 0 b(p=0&g=9999)",
-            "beats 0 0 1 9 0 -> 1");
-        run("x DAYS from d's to e's: none", "deed 0 1 1 5 0 0", "deed 0 2 1 5 0 0", "law 0 b(x=0)", "beats 0 0 1 9 0 -> 1");
-        run("x DAYS from d's to e's: 999", "deed 0 1 1 999 0 0", "deed 0 2 1 0 0 0", "law 0 b(x=999)", "beats 0 1 0 9 0 -> 1");
+        run("x DAYS from d's to e's: 999", "deed 0 1 1 999 0 0", "deed 0 2 1 0 0 0", "law 0 b(x=999)",
+            "beats 0 1 0 9 0 -> 1");
         for (int kind = 0; kind < 3; kind++) {
             run("k the KIND of d", "deed 0 1 1 5 " + kind + " 0", "deed 0 2 1 6 0 0", "law 0 b(k=" + kind + ")",
                 "beats 0 0 1 9 0 -> 1");
@@ -420,8 +446,8 @@ public final class LawEdgesTest {
         lasts("y: no CLAUSE of y", "b(1=1)", 100, 999, -1);
         lasts("In y n f c v p x w are 0", "y2+n+f+c+v+p+x+w(n=0&f=0&c=0&v=0&p=0&x=0&w=0)", 100, 101, 102);
         run("In y n f c v p x w are 0, though a DEED was asked about just before", "law 0 s(p=0);y5+n+f+c+v+p+x+w(1=1)",
-            "deed 0 1 1 5 1 0", "deed 0 2 1 6 0 7", "heard 2 0 5", "enter 0 5 0 0 0", "enter 1 6 0 0 0", "burdens 0 9 -> 1",
-            "burdens 0 10 -> 0");
+            "deed 0 1 1 5 1 0", "deed 0 2 1 6 0 7", "heard 2 0 5", "enter 0 5 0 0 0", "enter 1 6 0 0 0",
+            "burdens 0 9 -> 1", "burdens 0 10 -> 0");
         lasts("In y g is not", "yg(1=1)", 100, 106, 107);
         lasts("In y u is not", "y2+u(u=1)", 100, 102, 103);
         lasts("In y i is not", "y2+i(i=1)", 100, 102, 103);
@@ -429,9 +455,10 @@ public final class LawEdgesTest {
         lasts("In y h is not", "y2+h(h=3)", 100, 104, 105);
     }
 
-    /** A lane of strip 3, for 7, misnamed: on its last day it lies on the land, on the next (-1: there is none) no more. */
+    /** A lane of strip 3, for 7, misnamed: it lies on the land on its last day, not on the next (-1: there is none). */
     private static void lasts(String sentence, String text, int day, int last, int next) {
-        WidowDeeds x = Script.of("deed 0 1 8 " + day + " 1 7", "enter 0 " + day + " 0 0 0", "name 0 5", "law 0 " + text).office();
+        WidowDeeds x = Script.of("deed 0 1 8 " + day + " 1 7", "enter 0 " + day + " 0 0 0", "name 0 5",
+            "law 0 " + text).office();
         R.due(sentence + " | " + text + ": its last DAY", x.burdens(3, last), 1);
         if (next >= 0) {
             R.due(sentence + " | " + text + ": the next DAY", x.burdens(3, next), 0);
@@ -451,17 +478,19 @@ public final class LawEdgesTest {
         land.beyond("16: no such DEEDS", "beats 0 0 # 9 0", -1, -1, 2, 40);
         land.bounds("16: DAY 0 to 999", "beats 0 0 1 # 0", 0, 1, 999, 1, -1);
         land.bounds("16: what 0 BEATS, 1 SHEDS", "beats 0 0 1 9 #", 0, 1, 1, 0, -1);
-        land.refuses("16: e does not stand behind d", "beats 0 1 0 9 0 -> -1", "beats 0 0 0 9 0 -> -1", "beats 0 1 1 9 1 -> -1");
+        land.refuses("16: e does not stand behind d", "beats 0 1 0 9 0 -> -1", "beats 0 0 0 9 0 -> -1",
+            "beats 0 1 1 9 1 -> -1");
         EMPTY.refuses("16: no DEEDS yet", "beats 0 0 1 0 0 -> -1", "beats 0 0 0 0 0 -> -1");
-        FULL.gives("16: the last of 40", "beats 0 0 39 50 0 -> 1", "beats 0 38 39 50 1 -> 1", "beats 0 39 40 50 0 -> -1");
+        FULL.gives("16: the last of 40", "beats 0 0 39 50 0 -> 1", "beats 0 38 39 50 1 -> 1",
+            "beats 0 39 40 50 0 -> -1");
     }
 
     private static void promise16Which() {
-        Edges land = new Edges(R, Script.of("law 0 b(1=1);s(1=0)", "deed 0 1 1 5 0 0", "deed 0 2 2 6 0 0", "deed 0 3 3 7 0 0",
-            "deed 0 4 1 8 1 0", "deed 0 4 1 9 2 0"));
+        Edges land = new Edges(R, Script.of("law 0 b(1=1);s(1=0)", "deed 0 1 1 5 0 0", "deed 0 2 2 6 0 0",
+            "deed 0 3 3 7 0 0", "deed 0 4 1 8 1 0", "deed 0 4 1 9 2 0"));
         land.gives("16: both of the STRIP", "beats 0 0 2 9 0 -> 1", "beats 1 1 2 9 0 -> 1");
-        land.refuses("16: not both of the STRIP", "beats 0 0 1 9 0 -> -1", "beats 1 0 1 9 0 -> -1", "beats 0 1 2 9 0 -> -1",
-            "beats 1 0 2 9 0 -> -1", "beats 2 0 2 9 0 -> -1");
+        land.refuses("16: not both of the STRIP", "beats 0 0 1 9 0 -> -1", "beats 1 0 1 9 0 -> -1",
+            "beats 0 1 2 9 0 -> -1", "beats 1 0 2 9 0 -> -1", "beats 2 0 2 9 0 -> -1");
         land.gives("16: KINDS are not asked", "beats 0 3 4 9 0 -> 1", "beats 0 2 3 9 0 -> 1", "beats 0 3 4 9 1 -> 0");
         land.gives("16: a DAY ahead of theirs may be asked about", "beats 0 0 2 0 0 -> 1");
     }

@@ -1,11 +1,11 @@
-/** Offices at which the tests ask: with nothing in them, with something of all there is, and with as much as there can be. */
+/** Offices at which the tests ask: with nothing in them, with something of all, and with as much as there can be. */
 final class Offices {
     static final Script EMPTY = Script.of();
 
     /**
      * Ten deeds, three hearings, two wells, three buyers, X 777, forty bytes on the tape (the first 21 of them a law);
-     * kept once with nine deeds, and changed since. Deed 0 is entered, 1 was, 3 is misnamed, 5 is forged, 6 given by one
-     * who was dead; 3 is a lane and 4 a lien; 7 is of day 999 and 8 of day 0.
+     * kept once with nine deeds, and changed since. Deed 0 is entered, 1 was, 3 is misnamed, 5 is forged, 6 given by
+     * one who was dead; 3 is a lane and 4 a lien; 7 is of day 999 and 8 of day 0.
      */
     static final Script SOME = Script.of(
         "law 0 b(c=1);s(n=0&f=0);y30(k=1)", "law 1 b(p>g)", "law 2 b(n=0&f=0|q=1)",

@@ -3,7 +3,7 @@ import java.lang.reflect.Modifier;
 import java.util.Arrays;
 import java.util.Comparator;
 
-/** Every call with mixes of far-off arguments, at each kind of office: it answers, and where it is refused nothing changed. */
+/** Every call with mixes of far-off arguments, at each kind of office: it answers; if refused, it changes nothing. */
 public final class RefusalTest {
     private static final Report R = new Report("RefusalTest");
     private static final int[] FAR = {-1, 0, 1, 7, 8, 39, 40, 1000, Integer.MAX_VALUE, Integer.MIN_VALUE, -2, 32, 64};

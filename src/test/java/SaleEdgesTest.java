@@ -39,8 +39,8 @@ public final class SaleEdgesTest {
             "widow 1 -> 8");
         run("29: (in place of the one before): DAY", "buyer 3 5 100 9", "buyer 4 14 50 9", "widow 0 -> 100",
             "buyer 3 6 100 9 -> 1", "widow 0 -> 150");
-        run("29: (in place of the one before): after how many DAYS", "buyer 3 5 100 9", "buyer 4 14 50 9", "widow 0 -> 100",
-            "buyer 3 5 100 10 -> 1", "widow 0 -> 150");
+        run("29: (in place of the one before): after how many DAYS", "buyer 3 5 100 9", "buyer 4 14 50 9",
+            "widow 0 -> 100", "buyer 3 5 100 10 -> 1", "widow 0 -> 150");
         run("29: the same once more", "buyer 3 5 100 9 -> 1", "buyer 3 5 100 9 -> 1", "widow 0 -> 100");
     }
 
@@ -69,8 +69,8 @@ public final class SaleEdgesTest {
                 }
             }
         }
-        run("HEARS .. 100: never, not after 100 DAYS", "buyer 0 0 10 99", "buyer 1 99 5 9", "widow 0 -> 10", "buyer 1 98 5 9",
-            "widow 0 -> 15", "hears 1 0 100", "widow 0 -> 15");
+        run("HEARS .. 100: never, not after 100 DAYS", "buyer 0 0 10 99", "buyer 1 99 5 9", "widow 0 -> 10",
+            "buyer 1 98 5 9", "widow 0 -> 15", "hears 1 0 100", "widow 0 -> 15");
     }
 
     private static void promise31() {
@@ -98,20 +98,24 @@ public final class SaleEdgesTest {
         String heard = "and of none it has HEARD by then: ";
         run(heard + "on its DAY", "buyer 0 5 10 99", "buyer 1 9 9 99", "hears 1 0 4", "widow 0 -> 10");
         run(heard + "the DAY behind it", "buyer 0 5 10 99", "buyer 1 9 9 99", "hears 1 0 5", "widow 0 -> 19");
-        run(heard + "after 0 DAYS, on the same DAY", "buyer 0 5 10 99", "buyer 1 5 9 99", "hears 1 0 0", "widow 0 -> 10");
-        run(heard + "after 1 DAY, on the same DAY", "buyer 0 5 10 99", "buyer 1 5 9 99", "hears 1 0 1", "widow 0 -> 19");
+        run(heard + "after 0 DAYS, on the same DAY", "buyer 0 5 10 99", "buyer 1 5 9 99", "hears 1 0 0",
+            "widow 0 -> 10");
+        run(heard + "after 1 DAY, on the same DAY", "buyer 0 5 10 99", "buyer 1 5 9 99", "hears 1 0 1",
+            "widow 0 -> 19");
     }
 
     private static void termsSalesAhead() {
         String ahead = "sale ahead (of a lower DAY, or the same and a lower number): ";
-        run(ahead + "the same DAY, a higher number is not", "buyer 0 5 10 99", "buyer 1 5 9 0", "hears 0 1 0", "widow 0 -> 19");
+        run(ahead + "the same DAY, a higher number is not", "buyer 0 5 10 99", "buyer 1 5 9 0", "hears 0 1 0",
+            "widow 0 -> 19");
         run(ahead + "the same DAY, a lower number is", "buyer 0 5 10 0", "buyer 1 5 9 99", "widow 0 -> 10");
         run(ahead + "a lower DAY, a higher number is", "buyer 0 5 10 99", "buyer 1 4 9 0", "widow 0 -> 10");
-        run(ahead + "a higher DAY, a lower number is not", "buyer 0 6 10 0", "buyer 1 5 9 99", "hears 1 0 0", "widow 0 -> 19");
-        run(ahead + "one who is not sold to is no sale", "buyer 0 5 10 0", "buyer 1 6 10 0", "buyer 2 7 25 0", "widow 0 -> 25",
-            "widow 1 -> 4");
-        run(ahead + "any of them", "buyer 0 5 10 99", "buyer 1 6 10 99", "buyer 2 7 15 99", "hears 2 0 0", "widow 0 -> 25",
-            "widow 1 -> 6");
+        run(ahead + "a higher DAY, a lower number is not", "buyer 0 6 10 0", "buyer 1 5 9 99", "hears 1 0 0",
+            "widow 0 -> 19");
+        run(ahead + "one who is not sold to is no sale", "buyer 0 5 10 0", "buyer 1 6 10 0", "buyer 2 7 25 0",
+            "widow 0 -> 25", "widow 1 -> 4");
+        run(ahead + "any of them", "buyer 0 5 10 99", "buyer 1 6 10 99", "buyer 2 7 15 99", "hears 2 0 0",
+            "widow 0 -> 25", "widow 1 -> 6");
     }
 
     private static void termsMost() {
@@ -120,9 +124,10 @@ public final class SaleEdgesTest {
     }
 
     private static void termsLikeOnes() {
-        run("of like ones of fewest", "buyer 0 5 4 1", "buyer 1 5 6 1", "buyer 2 6 10 1", "widow 0 -> 10", "widow 1 -> 4");
-        run("of fewest, then the least", "buyer 3 5 10 0", "buyer 2 6 10 0", "widow 0 -> 10", "widow 1 -> 4", "buyer 0 7 10 0",
-            "widow 1 -> 1");
+        run("of like ones of fewest", "buyer 0 5 4 1", "buyer 1 5 6 1", "buyer 2 6 10 1", "widow 0 -> 10",
+            "widow 1 -> 4");
+        run("of fewest, then the least", "buyer 3 5 10 0", "buyer 2 6 10 0", "widow 0 -> 10", "widow 1 -> 4",
+            "buyer 0 7 10 0", "widow 1 -> 1");
         run("then the least: as bits, of two", "buyer 0 5 6 1", "buyer 3 5 4 1", "buyer 1 6 5 1", "buyer 2 6 5 1",
             "widow 0 -> 10", "widow 1 -> 6");
     }

@@ -6,8 +6,8 @@ import java.util.List;
 import java.util.Map;
 
 /**
- * Calls as rows of text ("deed 0 1 1 10 0 100"), to be made on any object that has the methods of the face. A law may be
- * told by its text ("law 0 b(c=1)"), a text alone is put on the tape ("text b(c=1)"); true counts 1 and false 0.
+ * Calls as rows of text ("deed 0 1 1 10 0 100"), to be made on any object that has the methods of the face. A law may
+ * be told by its text ("law 0 b(c=1)"), a text alone is put on the tape ("text b(c=1)"); true counts 1 and false 0.
  */
 final class Script {
     private static final Map<String, Method> METHODS = new HashMap<>();

@@ -1,6 +1,6 @@
 import java.util.function.Supplier;
 
-/** All that can be read of an office, as one text; by several objects, each of which is asked no more than 512 times. */
+/** All that can be read of an office, as one text; by several objects, none of which is asked more than 512 times. */
 final class States {
     private static final int[] DAYS = {0, 12, 21, 45, 999};
 
@@ -53,8 +53,8 @@ final class States {
     private static void land(WidowDeeds x, StringBuilder out) {
         for (int s = 0; s < 8; s++) {
             for (int day : DAYS) {
-                add(out, x.holder(s, day, 0), x.holder(s, day, 1), x.burdens(s, day), x.owed(s, day), x.unseen(s, day, 0),
-                        x.unseen(s, day, 1), x.unseen(s, day, 2));
+                add(out, x.holder(s, day, 0), x.holder(s, day, 1), x.burdens(s, day), x.owed(s, day),
+                        x.unseen(s, day, 0), x.unseen(s, day, 1), x.unseen(s, day, 2));
             }
         }
     }

@@ -1,4 +1,4 @@
-/** Each sentence of promises 1 to 11 that names an edge, and the terms they rest on: people, strips, deeds, entries, talk. */
+/** Each sentence of promises 1 to 11 that names an edge, and of their terms: people, strips, deeds, entries, talk. */
 public final class TellingEdgesTest {
     private static final Report R = new Report("TellingEdgesTest");
     private static final Edges SOME = new Edges(R, Offices.SOME);
@@ -43,8 +43,8 @@ public final class TellingEdgesTest {
     }
 
     private static void promise1NothingYet() {
-        run("1: No DEEDS, HEARINGS, WELLS; the tape is empty; THE SEED 1", "count 0 -> 0", "count 1 -> 0", "count 2 -> 0",
-            "count 3 -> 0", "count 4 -> 1", "deedIs 0 0 -> -1000");
+        run("1: No DEEDS, HEARINGS, WELLS; the tape is empty; THE SEED 1", "count 0 -> 0", "count 1 -> 0",
+            "count 2 -> 0", "count 3 -> 0", "count 4 -> 1", "deedIs 0 0 -> -1000");
         run("1: No LAWS", "count 10 -> 0", "count 11 -> 0", "count 12 -> 0", "deed 0 1 1 5 0 9", "deed 0 2 1 6 0 99",
             "enter 1 6 0 0 0", "beats 0 0 1 9 0 -> 0", "beats 0 0 1 9 1 -> 0", "holder 0 9 0 -> 1");
         run("1: No LAWS: a lane is for good", "deed 0 1 1 0 1 9", "burdens 0 999 -> 1");
@@ -73,8 +73,8 @@ public final class TellingEdgesTest {
 
     private static void promise2People() {
         SOME.bounds("2: PEOPLE 0 to 9", "dies # 50", 0, 1, 9, 1, 0);
-        run("2: the first and the last PERSON", "dies 0 7", "dies 9 8", "count 20 -> 7", "count 29 -> 8", "count 21 -> -1",
-            "count 28 -> -1");
+        run("2: the first and the last PERSON", "dies 0 7", "dies 9 8", "count 20 -> 7", "count 29 -> 8",
+            "count 21 -> -1", "count 28 -> -1");
     }
 
     private static void promise2Days() {
@@ -88,10 +88,11 @@ public final class TellingEdgesTest {
     }
 
     private static void promise2DeathDay() {
-        run("VOID is one whose GIVER DIED on its DAY or ahead of it", "deed 0 1 1 20 0 0", "dies 0 21", "deedIs 0 4 -> 0",
-            "holder 0 20 0 -> 1", "dies 0 20", "deedIs 0 4 -> 1", "holder 0 20 0 -> 0", "dies 0 19", "deedIs 0 4 -> 1",
-            "dies 0 0", "deedIs 0 4 -> 1", "dies 0 -1", "deedIs 0 4 -> 0");
-        run("VOID: not for its TAKER's death", "deed 0 1 1 20 0 0", "dies 1 0", "deedIs 0 4 -> 0", "holder 0 20 0 -> 1");
+        run("VOID is one whose GIVER DIED on its DAY or ahead of it", "deed 0 1 1 20 0 0", "dies 0 21",
+            "deedIs 0 4 -> 0", "holder 0 20 0 -> 1", "dies 0 20", "deedIs 0 4 -> 1", "holder 0 20 0 -> 0", "dies 0 19",
+            "deedIs 0 4 -> 1", "dies 0 0", "deedIs 0 4 -> 1", "dies 0 -1", "deedIs 0 4 -> 0");
+        run("VOID: not for its TAKER's death", "deed 0 1 1 20 0 0", "dies 1 0", "deedIs 0 4 -> 0",
+            "holder 0 20 0 -> 1");
         run("VOID on DAY 0", "deed 0 1 1 0 0 0", "dies 0 0", "deedIs 0 4 -> 1", "dies 0 1", "deedIs 0 4 -> 0");
     }
 
@@ -99,9 +100,12 @@ public final class TellingEdgesTest {
         SOME.bounds("3: STRIPS 0 to 7", "strip # 5 1", 0, 1, 7, 1, 0);
         SOME.bounds("3: FIRST OWNER 0 to 9", "strip 3 # 1", 0, 1, 9, 1, 0);
         SOME.bounds("3: LAW 0 to 2", "strip 3 5 #", 0, 1, 2, 1, 0);
-        run("3: the first STRIP", "strip 0 9 2", "holder 0 0 0 -> 9", "count 30 -> 2", "holder 1 0 0 -> 0", "count 31 -> 0");
-        run("3: the last STRIP", "strip 7 9 2", "holder 7 0 0 -> 9", "count 37 -> 2", "holder 6 0 0 -> 0", "count 36 -> 0");
-        run("3: the first OWNER and LAW again", "strip 7 9 2", "strip 7 0 0 -> 1", "holder 7 0 0 -> 0", "count 37 -> 0");
+        run("3: the first STRIP", "strip 0 9 2", "holder 0 0 0 -> 9", "count 30 -> 2", "holder 1 0 0 -> 0",
+            "count 31 -> 0");
+        run("3: the last STRIP", "strip 7 9 2", "holder 7 0 0 -> 9", "count 37 -> 2", "holder 6 0 0 -> 0",
+            "count 36 -> 0");
+        run("3: the first OWNER and LAW again", "strip 7 9 2", "strip 7 0 0 -> 1", "holder 7 0 0 -> 0",
+            "count 37 -> 0");
         run("3: a LAW that has no TEXT yet may be told", "strip 4 1 2 -> 1", "count 34 -> 2");
     }
 
@@ -144,12 +148,14 @@ public final class TellingEdgesTest {
 
     private static void termsOrder() {
         run("A DEED stands ahead of another one by DAY, then by number", "law 0 b(1=1)", "deed 0 1 1 6 0 0",
-            "deed 0 2 1 5 0 0", "deed 0 3 1 6 0 0", "beats 0 1 0 9 0 -> 1", "beats 0 0 1 9 0 -> -1", "beats 0 0 2 9 0 -> 1",
-            "beats 0 2 0 9 0 -> -1", "beats 0 0 0 9 0 -> -1", "beats 0 1 2 9 0 -> 1", "beats 0 2 1 9 0 -> -1");
+            "deed 0 2 1 5 0 0", "deed 0 3 1 6 0 0", "beats 0 1 0 9 0 -> 1", "beats 0 0 1 9 0 -> -1",
+            "beats 0 0 2 9 0 -> 1", "beats 0 2 0 9 0 -> -1", "beats 0 0 0 9 0 -> -1", "beats 0 1 2 9 0 -> 1",
+            "beats 0 2 1 9 0 -> -1");
     }
 
     private static void promise5() {
-        SOME.gives("5: the first DEED and the last one", "forged 0 true -> 1", "forged 9 true -> 1", "forged 5 false -> 1");
+        SOME.gives("5: the first DEED and the last one", "forged 0 true -> 1", "forged 9 true -> 1",
+            "forged 5 false -> 1");
         SOME.beyond("5: no such one", "forged # true", 0, -1, 10, 39, 40);
         SOME.beyond("5: no such one", "forged # false", 0, -1, 10, 39, 40);
         SOME.refuses("5: it is so: FORGED", "forged 5 true -> 0");
@@ -187,7 +193,8 @@ public final class TellingEdgesTest {
         SOME.refuses("6: it is ENTERED", "enter 0 20 0 1 2 -> 0", "enter 0 30 5 5 5 -> 0", "enter 3 15 6 7 8 -> 0");
         SOME.refuses("6: it is ENTERED, from a later DAY on", "enter 2 20 6 7 8 -> 0");
         EMPTY.refuses("6: no DEEDS yet", "enter 0 0 0 0 0 -> 0");
-        run("6: under its GIVER's NAME", "deed 9 1 1 5 0 0", "enter 0 8 1 2 3 -> 1", "deedIs 0 2 -> 9", "deedIs 0 1 -> 8");
+        run("6: under its GIVER's NAME", "deed 9 1 1 5 0 0", "enter 0 8 1 2 3 -> 1", "deedIs 0 2 -> 9",
+            "deedIs 0 1 -> 8");
     }
 
     private static void promise6FromADayOn() {
@@ -205,7 +212,8 @@ public final class TellingEdgesTest {
         SOME.bounds("7: the first PAGE 0 to 13", "mule 9 40 # 5 5", 0, 43, 13, 43, -1);
         SOME.bounds("7: the second PAGE 0 to 13", "mule 9 40 5 # 5", 0, 43, 13, 43, -1);
         SOME.bounds("7: the third PAGE 0 to 13", "mule 9 40 5 5 #", 0, 43, 13, 43, -1);
-        SOME.gives("7: the first DEED and the last one that are not ENTERED", "mule 1 12 0 0 0 -> 15", "mule 9 40 0 0 0 -> 43");
+        SOME.gives("7: the first DEED and the last one that are not ENTERED", "mule 1 12 0 0 0 -> 15",
+            "mule 9 40 0 0 0 -> 43");
         SOME.beyond("7: no such DEED", "mule # 40 0 0 0", -1, -1, 10, 40);
         SOME.refuses("7: it is ENTERED", "mule 0 20 0 0 0 -> -1", "mule 2 20 0 0 0 -> -1", "mule 3 15 0 0 0 -> -1");
         EMPTY.refuses("7: no DEEDS yet", "mule 0 0 0 0 0 -> -1");
@@ -214,7 +222,7 @@ public final class TellingEdgesTest {
             "deedIs 0 2 -> 0", "deedIs 0 3 -> 14");
     }
 
-    /** Each seed is one behind which X modulo 7 is 0, 1, .. 6; then those behind which X is the lowest and the highest. */
+    /** Seeds behind which X modulo 7 is 0, 1, .. 6; then those behind which X is the lowest and the highest. */
     private static void promise7Modulo() {
         int[] seedFor = {12, 15, 20, 0, 1, 2, 7};
         for (int rest = 0; rest < 7; rest++) {
@@ -227,7 +235,8 @@ public final class TellingEdgesTest {
             "count 4 -> 54212");
         run("7: modulo 65536: X is 0", "seed 3915", "deed 0 1 1 5 0 0", "deed 0 1 1 5 0 0", "mule 0 20 0 0 0 -> 21",
             "count 4 -> 0", "mule 1 20 0 0 0 -> 24", "count 4 -> 13849");
-        run("7: modulo 65536: X is 65535", "seed 33870", "deed 0 1 1 5 0 0", "mule 0 20 0 0 0 -> 22", "count 4 -> 65535");
+        run("7: modulo 65536: X is 65535", "seed 33870", "deed 0 1 1 5 0 0", "mule 0 20 0 0 0 -> 22",
+            "count 4 -> 65535");
     }
 
     private static void promise7BehindTheLastDay() {
@@ -247,7 +256,8 @@ public final class TellingEdgesTest {
         SOME.refuses("8: it is so: another PERSON's", "name 3 7 -> 0");
         EMPTY.refuses("8: no DEEDS yet", "name 0 5 -> 0");
         run("8: MISNAMED if another PERSON's is told", "deed 3 1 1 5 0 0", "enter 0 5 0 0 0", "unseen 0 9 1 -> 0",
-            "name 0 1 -> 1", "deedIs 0 2 -> 1", "unseen 0 9 1 -> 1", "name 0 3 -> 1", "deedIs 0 2 -> 3", "unseen 0 9 1 -> 0");
+            "name 0 1 -> 1", "deedIs 0 2 -> 1", "unseen 0 9 1 -> 1", "name 0 3 -> 1", "deedIs 0 2 -> 3",
+            "unseen 0 9 1 -> 0");
     }
 
     private static void promise9() {
@@ -310,9 +320,10 @@ public final class TellingEdgesTest {
         run("..: on its own DAY", "deed 0 1 1 5 0 0", "well 5 5", "known 2 0 -> 5");
         run("..: behind it", "deed 0 1 1 5 0 0", "well 6 5", "known 2 0 -> 6");
         run("..: from whom HEARD on that DAY", "deed 0 1 1 5 0 0", "heard 2 0 8", "well 8 12", "known 3 0 -> 8");
-        run("..: not from whom HEARD the DAY behind", "deed 0 1 1 5 0 0", "heard 2 0 8", "well 7 12", "known 3 0 -> -2");
-        run("..: all DEEDS that one of them knows", "deed 0 1 1 5 0 0", "deed 2 3 1 6 0 0", "well 9 5", "known 0 1 -> 9",
-            "known 2 0 -> 9", "known 1 1 -> -2");
+        run("..: not from whom HEARD the DAY behind", "deed 0 1 1 5 0 0", "heard 2 0 8", "well 7 12",
+            "known 3 0 -> -2");
+        run("..: all DEEDS that one of them knows", "deed 0 1 1 5 0 0", "deed 2 3 1 6 0 0", "well 9 5",
+            "known 0 1 -> 9", "known 2 0 -> 9", "known 1 1 -> -2");
         run("..: the lower DAY counts", "deed 0 1 1 5 0 0", "heard 2 0 8", "well 9 5", "known 2 0 -> 8", "well 7 5",
             "known 2 0 -> 7");
         run("..: the last PERSON", "deed 0 1 1 5 0 0", "well 999 513", "known 9 0 -> 999");
