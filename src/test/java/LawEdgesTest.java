@@ -305,6 +305,10 @@ public final class LawEdgesTest {
         holds(all, "5/1=5&5%1=0&5/[0-1]=0-5&5%[0-1]=0", true);
         holds("!PIECE", "!1=1", false);
         holds("!PIECE", "!1=0", true);
+        holds("!PIECE", "!1<2", false);
+        holds("!PIECE", "!2<2", true);
+        holds("!PIECE", "!2>1", false);
+        holds("!PIECE", "!2>2", true);
         holds("!PIECE", "!!1=1", true);
         holds("!PIECE", "!!1=0", false);
         holds("!PIECE", "!(1=1|1=0)", false);
